@@ -270,7 +270,7 @@ public final class ElevenYoghurts {
         if (one == null || !isIn(seen, 0, 1)) {
             return refuse(BEYOND);
         }
-        return now.guardOf(one, seen);
+        return now.guardLaw.gives(one.label, seen, one.look);
     }
 
     public int comes(int person, int seen) {
@@ -341,7 +341,7 @@ public final class ElevenYoghurts {
         }
         thought.copyFrom(now);
         int safest = 0;
-        int fewest = Integer.MAX_VALUE;
+        int fewest = 2 * MOST_PEOPLE + 1;
         for (int label = 0; label <= MOST_LABEL; label++) {
             thought.things[thing].label = label;
             int others = othersWanting(thing, 0) + othersWanting(thing, 1);
@@ -860,14 +860,10 @@ public final class ElevenYoghurts {
             return appealLaw.gives(thing.label, thing.look, thing.age);
         }
 
-        int guardOf(Thing thing, int seen) {
-            return guardLaw.gives(thing.label, seen, thing.look);
-        }
-
-        /** URGE less GUARD, of his own without GUARD. */
+        /** URGE less GUARD, of his own without GUARD; asks the laws themselves, to keep the calls eight deep. */
         int pullOf(Person one, Thing thing, int seen) {
-            int urge = one.urgeFor(thing, appealOf(thing));
-            return one.owns(thing) ? urge : urge - guardOf(thing, seen);
+            int urge = one.urgeFor(thing, appealLaw.gives(thing.label, thing.look, thing.age));
+            return one.owns(thing) ? urge : urge - guardLaw.gives(thing.label, seen, thing.look);
         }
 
         int wantedBy(Person one, int seen) {
