@@ -1200,34 +1200,29 @@ public final class ElevenYoghurts {
         final int[] trace = new int[MOST_TRACED];
         int traceLength;
         int answer;
-        private final int[] begun = new int[MOST_TRACED];
-        private int begunLength;
         private boolean parted;
         private int k;
         private int m;
         private int kind;
 
-        /** A VOICE that is PARTED leaves THE TRACE as it was, as every act that answers an ERROR. */
+        /** Whether no BODY parts by 0; THE TRACE is that of this VOICE, even if one does. */
         boolean isAnswered(Person one, int voice, int x) {
             k = one.k;
             m = one.m;
             kind = one.kind;
-            begunLength = 0;
+            traceLength = 0;
             parted = false;
-            int said = say(voice, kind, x, 0);
-            if (parted) {
-                return false;
-            }
-            answer = said;
-            traceLength = begunLength;
-            System.arraycopy(begun, 0, trace, 0, MOST_TRACED);
-            return true;
+            answer = say(voice, kind, x, 0);
+            return !parted;
         }
 
-        /** The VOICE as the KIND from says it, or the next above that has a BODY for it. */
+        /**
+         * The VOICE as the KIND from says it, or the next above that has a BODY for it.
+         * What is PARTED has no number to go on with, so no BODY begins after that.
+         */
         private int say(int voice, int from, int x, int deep) {
             int bearer = bearerOf(voice, from);
-            if (bearer < 0 || deep >= MOST_DEEP) {
+            if (parted || bearer < 0 || deep >= MOST_DEEP) {
                 return 0;
             }
             int body = BODIES[VOICES * bearer + voice];
@@ -1262,9 +1257,9 @@ public final class ElevenYoghurts {
         }
 
         private void begin(int body) {
-            if (begunLength < MOST_TRACED) {
-                begun[begunLength] = body;
-                begunLength++;
+            if (traceLength < MOST_TRACED) {
+                trace[traceLength] = body;
+                traceLength++;
             }
         }
 

@@ -686,14 +686,12 @@ public final class Model {
         Person s = speaker(w.humans.get(person).kind);
         s.k = person;
         s.m = w.humans.get(person).m;
-        int said;
+        trace = s.trace;
         try {
-            said = voice == 0 ? s.sniffs(x) : voice == 1 ? s.marks(x) : voice == 2 ? s.swears(x) : s.parts(x);
+            return voice == 0 ? s.sniffs(x) : voice == 1 ? s.marks(x) : voice == 2 ? s.swears(x) : s.parts(x);
         } catch (Parted e) {
             return no(PARTED);
         }
-        trace = s.trace.size() > 30 ? s.trace.subList(0, 30) : s.trace;
-        return said;
     }
 
     public int body(int i) {

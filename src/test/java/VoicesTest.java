@@ -64,17 +64,29 @@ public final class VoicesTest {
         x.person(0);
         x.person(11);
         x.person(0);
-        D.due("parts by 0", x.voice(0, 3, 8), PARTED);
-        D.due("THE TRACE stays", x.count(9), 0);
-        said(x, 2, 3, 8, -4, 13);
-        D.due("a TAKER's parts by 0", x.voice(1, 3, 8), PARTED);
+        x.person(23);
+        x.person(44);
+        x.person(55);
+        x.person(66);
+        said(x, 0, 3, 8, PARTED, 13);
+        D.due("told(6)", x.told(6), 1);
+        said(x, 2, 1, 8, 20, 11, 10);
+        said(x, 1, 3, 8, PARTED, 21, 13);
+        said(x, 3, 3, 8, PARTED, 13);
+        said(x, 4, 3, 8, PARTED, 21, 13);
+        said(x, 5, 3, 0, PARTED, 13);
+        said(x, 6, 3, Integer.MIN_VALUE, PARTED, 13);
+        D.due("told(6)", x.told(6), 6);
+        D.due("BEYOND begins no BODY", x.voice(1, 4, 8), BEYOND);
         D.due("THE TRACE stays", x.count(9), 1);
         D.due("THE TRACE stays", x.body(0), 13);
-        D.due("told(6)", x.told(6), 2);
+        said(x, 2, 3, 8, -4, 13);
+        said(x, 1, 2, 8, 9, 12, 11, 20, 10);
         said(x, 0, 0, PARTED, PARTED, 10);
-        D.due("no ERROR, though it looks so", x.told(6), 2);
+        D.due("no ERROR, though it looks so", x.told(6), 6);
+        int beyond = x.told(1);
         said(x, 0, 0, BEYOND, BEYOND, 10);
-        D.due("no ERROR, though it looks so", x.told(1), 0);
+        D.due("no ERROR, though it looks so", x.told(1), beyond);
     }
 
     private static void wrong(ElevenYoghurts x) {
