@@ -1,5 +1,3 @@
-import java.lang.reflect.InvocationTargetException;
-import java.lang.reflect.Method;
 import java.util.ArrayList;
 import java.util.List;
 
@@ -42,7 +40,7 @@ public final class RandomRunsTest {
         return least + below((int) (most - least + 1));
     }
 
-    public static void main(String[] args) throws ReflectiveOperationException {
+    public static void main(String[] args) {
         RandomRunsTest test = new RandomRunsTest();
         for (int run = 0; run < RUNS && !test.wrong; run++) {
             test.run(run);
@@ -51,7 +49,7 @@ public final class RandomRunsTest {
         if (test.wrong) System.exit(1);
     }
 
-    private void run(int run) throws ReflectiveOperationException {
+    private void run(int run) {
         mine = new ElevenYoghurts();
         due = new Model();
         calls.clear();
@@ -72,7 +70,7 @@ public final class RandomRunsTest {
         }
     }
 
-    private void oneCall(int oddness) throws ReflectiveOperationException {
+    private void oneCall(int oddness) {
         int total = 0;
         for (String kind : CALL_KINDS) total += Integer.parseInt(kind.split(" ")[1]);
         int pick = below(total);
@@ -93,7 +91,7 @@ public final class RandomRunsTest {
     }
 
     /** A TEXT that mostly is one, in words of up to 8 bytes. */
-    private void readText() throws ReflectiveOperationException {
+    private void readText() {
         int use = below(2);
         StringBuilder text = new StringBuilder();
         write(text, 0, use == 0 ? "loa" : "lso", 0);
@@ -140,7 +138,7 @@ public final class RandomRunsTest {
     }
 
     /** A SHEET that tells what is taken, or nearly. */
-    private void laySheet() throws ReflectiveOperationException {
+    private void laySheet() {
         int sheet = below(4);
         int n = below(7);
         call("sheet", sheet, 8 << below(3), n);
@@ -176,14 +174,14 @@ public final class RandomRunsTest {
         return -1;
     }
 
-    private void tellHunger() throws ReflectiveOperationException {
+    private void tellHunger() {
         int many = below(due.count(0) + 2);
         call("check");
         for (int i = 0; i < many; i++) call("tell", i < due.count(0) && below(9) != 0 ? due.personIs(i, 2) : below(100));
         call("check");
     }
 
-    private void call(String name, Object... given) throws ReflectiveOperationException {
+    private void call(String name, Object... given) {
         if (wrong) return;
         Object[] longs = new Object[given.length];
         StringBuilder text = new StringBuilder(name).append('(');
@@ -192,31 +190,17 @@ public final class RandomRunsTest {
             text.append(i == 0 ? "" : ", ").append(longs[i]);
         }
         calls.add(text.append(')').toString());
-        long want = answer(due, name, longs);
+        long want = Calls.answer(due, name, longs);
         long got;
         try {
-            got = answer(mine, name, longs);
-        } catch (InvocationTargetException e) {
-            report("threw " + e.getCause(), want);
+            got = Calls.answer(mine, name, longs);
+        } catch (IllegalStateException e) {
+            report(e.getMessage(), want);
             return;
         }
         answers++;
         if (want >= Model.PARTED && want <= Model.BEYOND) errors++;
         if (got != want) report("answered " + got, want);
-    }
-
-    private static long answer(Object on, String name, Object[] longs) throws ReflectiveOperationException {
-        for (Method m : on.getClass().getDeclaredMethods()) {
-            if (!m.getName().equals(name) || !java.lang.reflect.Modifier.isPublic(m.getModifiers())) continue;
-            Object[] args = new Object[longs.length];
-            for (int i = 0; i < args.length; i++) {
-                long v = (Long) longs[i];
-                if (m.getParameterTypes()[i] == long.class) args[i] = v;
-                else args[i] = (int) v;
-            }
-            return ((Number) m.invoke(on, args)).longValue();
-        }
-        throw new NoSuchMethodException(name);
     }
 
     private void report(String what, long want) {

@@ -17,12 +17,7 @@ public final class TextsTest {
 
     /** A TEXT comes to THE TAPE, at most 8 bytes a call. */
     static void write(ElevenYoghurts x, String text) {
-        for (int at = 0; at < text.length(); at += 8) {
-            int n = Math.min(8, text.length() - at);
-            long word = 0;
-            for (int i = 0; i < n; i++) word |= (long) text.charAt(at + i) << (8 * i);
-            x.feed(word, n);
-        }
+        for (int at = 0; at < text.length(); at += 8) Calls.all(x, Calls.fed(text.substring(at, Math.min(at + 8, text.length()))));
     }
 
     private static void feed() {
