@@ -1034,7 +1034,7 @@ public final class ElevenYoghurts {
                 int sign = signs[i];
                 if (sign == NUMBER || sign == NAME) {
                     top++;
-                    if (top < stack.length) {
+                    if (isIn(top, 0, stack.length - 1)) {
                         stack[top] = sign == NUMBER ? values[i] : named(values[i], a, b, c);
                     }
                 } else if (sign == '!') {
