@@ -19,6 +19,8 @@ public final class ElevenYoghurts {
     private static final int MOST_BYTES = 60;
     private static final int MOST_WAITING = 24;
     private static final int MOST_HOURS = 9999;
+    private static final int MOST_HOURS_A_CALL = 40;
+    private static final int MOST_HOURS_AHEAD = 60;
     private static final int MOST_COUNTED = 9999;
     private static final int SHEETS = 4;
     private static final int MOST_NUMBERS = 24;
@@ -282,7 +284,7 @@ public final class ElevenYoghurts {
     }
 
     public int hours(int n) {
-        if (!isIn(n, 1, 40)) {
+        if (!isIn(n, 1, MOST_HOURS_A_CALL)) {
             return refuse(BEYOND);
         }
         if (now.hour + n > MOST_HOURS) {
@@ -298,9 +300,7 @@ public final class ElevenYoghurts {
         if (!isIn(age, 0, MOST_AGE)) {
             return refuse(BEYOND);
         }
-        int out = now.throwOut(age);
-        now.thrown = Math.min(MOST_COUNTED, now.thrown + out);
-        return out;
+        return now.throwOut(age);
     }
 
     public int seed(int v) {
@@ -407,7 +407,7 @@ public final class ElevenYoghurts {
     }
 
     public int lost(int n, int what) {
-        if (!isIn(n, 0, 60) || !isIn(what, 0, 1)) {
+        if (!isIn(n, 0, MOST_HOURS_AHEAD) || !isIn(what, 0, 1)) {
             return refuse(BEYOND);
         }
         thought.copyFrom(now);
@@ -436,7 +436,7 @@ public final class ElevenYoghurts {
         if (one == null || !isIn(voice, 0, Voices.VOICES - 1)) {
             return refuse(BEYOND);
         }
-        return voices.isAnswered(one, voice, x) ? voices.answer : refuse(PARTED);
+        return voices.speaks(one, voice, x) ? voices.answer : refuse(PARTED);
     }
 
     public int body(int i) {
@@ -942,6 +942,7 @@ public final class ElevenYoghurts {
                     out++;
                 }
             }
+            thrown = Math.min(MOST_COUNTED, thrown + out);
             return out;
         }
 
@@ -1092,21 +1093,21 @@ public final class ElevenYoghurts {
             names = use == APPEAL ? "loa" : "lso";
             at = 0;
             draft.clear();
-            return isChain(0, 0) && at >= length ? NO_FAULT : at;
+            return readsChain(0, 0) && at >= length ? NO_FAULT : at;
         }
 
         /** Reads what a level joins; if it can't, at stands at the FAULT. */
-        private boolean isChain(int level, int open) {
+        private boolean readsChain(int level, int open) {
             if (level >= LEVELS) {
-                return isOperand(open);
+                return readsOperand(open);
             }
-            if (!isChain(level + 1, open)) {
+            if (!readsChain(level + 1, open)) {
                 return false;
             }
             while (at < length && levelOf(tape[at]) == level) {
                 int sign = tape[at];
                 at++;
-                if (!isChain(level + 1, open)) {
+                if (!readsChain(level + 1, open)) {
                     return false;
                 }
                 draft.append(sign, 0);
@@ -1117,7 +1118,7 @@ public final class ElevenYoghurts {
             return true;
         }
 
-        private boolean isOperand(int open) {
+        private boolean readsOperand(int open) {
             if (at >= length) {
                 return false;
             }
@@ -1136,19 +1137,19 @@ public final class ElevenYoghurts {
                 return false;
             }
             at++;
-            return sign == '!' ? isDenied(open + 1) : isClosed(open + 1);
+            return sign == '!' ? readsDenied(open + 1) : readsClosed(open + 1);
         }
 
-        private boolean isDenied(int open) {
-            if (!isOperand(open)) {
+        private boolean readsDenied(int open) {
+            if (!readsOperand(open)) {
                 return false;
             }
             draft.append('!', 0);
             return true;
         }
 
-        private boolean isClosed(int open) {
-            if (!isChain(0, open) || at >= length || tape[at] != ')') {
+        private boolean readsClosed(int open) {
+            if (!readsChain(0, open) || at >= length || tape[at] != ')') {
                 return false;
             }
             at++;
@@ -1206,7 +1207,7 @@ public final class ElevenYoghurts {
         private int kind;
 
         /** Whether no BODY parts by 0; THE TRACE is that of this VOICE, even if one does. */
-        boolean isAnswered(Person one, int voice, int x) {
+        boolean speaks(Person one, int voice, int x) {
             k = one.k;
             m = one.m;
             kind = one.kind;

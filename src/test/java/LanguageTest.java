@@ -6,6 +6,7 @@ import java.nio.file.Files;
 import java.nio.file.Path;
 import java.util.ArrayList;
 import java.util.List;
+import java.util.TreeMap;
 import java.util.TreeSet;
 import java.util.regex.Matcher;
 import java.util.regex.Pattern;
@@ -26,6 +27,7 @@ public final class LanguageTest {
         words(source);
         library(source);
         methods(source);
+        calls(source);
         classes();
         D.finish();
     }
@@ -96,6 +98,59 @@ public final class LanguageTest {
             D.due(m.group(4) + " bears a name of the face", open.contains(m.group(4)) ? 1 : 0, isPublic ? 1 : 0);
         }
         D.due("methods were found", found >= 42 ? 1 : 0, 1);
+    }
+
+    /**
+     * How deep calls go from the face, a recursion counted once, and that no call makes an object or an array. A method
+     * is known by its class and name; a call "x.name(" may be that of any other class that has one of this name.
+     */
+    private static void calls(String source) {
+        TreeMap<String, String> bodies = bodies(source);
+        TreeMap<String, TreeSet<String>> called = new TreeMap<>();
+        Pattern call = Pattern.compile("(\\.)?\\b(\\w+)\\(");
+        for (String caller : bodies.keySet()) {
+            TreeSet<String> found = new TreeSet<>();
+            String own = caller.substring(0, caller.indexOf('.'));
+            Matcher m = call.matcher(bodies.get(caller));
+            while (m.find()) {
+                for (String other : bodies.keySet()) {
+                    if (other.endsWith("." + m.group(2)) && (m.group(1) == null || !other.startsWith(own + "."))) found.add(other);
+                }
+            }
+            called.put(caller, found);
+        }
+        D.due("judge calls others", called.get("ElevenYoghurts.judge").contains("Fridge.hourByDraws") ? 1 : 0, 1);
+        for (String caller : bodies.keySet()) {
+            D.due(caller + " makes nothing", Pattern.compile("\\bnew\\b|\\.clone\\(|Arrays\\.copyOf").matcher(bodies.get(caller)).find() ? 1 : 0, 0);
+            int deep = deepest(caller, called, new ArrayList<>());
+            D.due(caller + " is at most eight deep", deep > 8 ? deep : 0, 0);
+        }
+    }
+
+    private static TreeMap<String, String> bodies(String source) {
+        TreeMap<String, String> bodies = new TreeMap<>();
+        String[] lines = source.split("\n");
+        Pattern head = Pattern.compile("^( {4}| {8})(?:public |private )?(?:static )?[\\w\\[\\]]+ (\\w+)\\([^)]*\\) \\{$");
+        String inside = "ElevenYoghurts";
+        for (int i = 0; i < lines.length; i++) {
+            Matcher nested = Pattern.compile("^    private static final class (\\w+) \\{$").matcher(lines[i]);
+            if (nested.find()) inside = nested.group(1);
+            Matcher m = head.matcher(lines[i]);
+            if (!m.find() || Character.isUpperCase(m.group(2).charAt(0))) continue;
+            StringBuilder body = new StringBuilder();
+            for (int j = i + 1; j < lines.length && !lines[j].equals(m.group(1) + "}"); j++) body.append(lines[j]).append('\n');
+            bodies.put((m.group(1).length() == 4 ? "ElevenYoghurts" : inside) + "." + m.group(2), body.toString());
+        }
+        return bodies;
+    }
+
+    private static int deepest(String from, TreeMap<String, TreeSet<String>> called, List<String> open) {
+        if (open.contains(from)) return 0;
+        open.add(from);
+        int most = 0;
+        for (String next : called.get(from)) most = Math.max(most, deepest(next, called, open));
+        open.remove(open.size() - 1);
+        return most + 1;
     }
 
     private static void classes() {
